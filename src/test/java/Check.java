@@ -1,0 +1,44 @@
+/** Counts answers that are not the ones due, and tells them. */
+final class Check {
+    private int wrong = 0;
+    private int looked = 0;
+
+    void due(String call, long got, long want) {
+        looked++;
+        if (got != want) {
+            wrong++;
+            System.out.println(call + " answered " + got + ", due is " + want);
+        }
+    }
+
+    void dueText(String what, String got, String want) {
+        looked++;
+        if (!got.equals(want)) {
+            wrong++;
+            System.out.println(what + " is " + got + ", due is " + want);
+        }
+    }
+
+    void finish() {
+        System.out.println(wrong == 0 ? looked + " answers as due" : wrong + " answers not as due");
+        if (wrong != 0) {
+            System.exit(1);
+        }
+    }
+
+    static void writeAll(GauntletHall hall, String text) {
+        for (int i = 0; i < text.length(); i++) {
+            hall.write(text.charAt(i));
+        }
+    }
+
+    static GauntletHall laid(String text) {
+        GauntletHall hall = new GauntletHall();
+        writeAll(hall, text);
+        int people = hall.lay();
+        if (people < 0) {
+            throw new IllegalStateException("cannot be laid: " + text);
+        }
+        return hall;
+    }
+}
