@@ -809,12 +809,22 @@ public final class GauntletHall {
         int gloveToThrow(Hall now, int p, int q) {
             for (int kind = 0; kind < KINDS; kind++) {
                 for (int size = 1; size <= MOST_SIZE; size++) {
-                    if (isTakenUp(now, kind, size, p, q)) {
+                    // Most gloves never fit, and need not be tried through all the reigns.
+                    if (mayFitInTime(kind, size, now.hand[q]) && isTakenUp(now, kind, size, p, q)) {
                         return 100 * kind + size;
                     }
                 }
             }
             return NONE;
+        }
+
+        private static boolean mayFitInTime(int kind, int size, int hand) {
+            for (int lain = 0; lain < FARTHEST; lain += REIGNS_TO_SHRINK) {
+                if (isAsLarge(kind, sizeByNow(kind, size, lain), hand)) {
+                    return true;
+                }
+            }
+            return false;
         }
 
         private boolean isTakenUp(Hall now, int kind, int size, int p, int q) {

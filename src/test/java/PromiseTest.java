@@ -565,6 +565,11 @@ public final class PromiseTest {
         due("with 8", x.dare(0, 1), NONE);
         x.take(0);
         due("with 8, one gone", x.dare(0, 1), NONE);
+        due("least size", Check.laid("p5,9,0;p1,7,1;").dare(0, 1), 1);
+        // Person 1, of 2's hand, takes all until 0 puts it out in the 26th reign; then 2 takes 1's first.
+        String stiff = "p14,40,1;p5,20,1;p5,9,1;p15,10,0;g3,20,1;" + "g3,11,1;".repeat(4);
+        due("in the 30th", Check.laid(stiff).dare(3, 2), 311);
+        due("in the 31st", Check.laid(stiff + "g3,11,1;").dare(3, 2), NONE);
         x = new GauntletHall();
         x.pass(1);
         due("p out", x.dare(0, 3), NO);
@@ -593,6 +598,9 @@ public final class PromiseTest {
         x.wear(1, 1);
         due("no fight with one out", x.first(0, 1), 20);
         due("of like the lowest", x.first(0, 0), 0);
+        x = Check.laid("p5,1,0;p9,1,0;g2,5,1;");
+        due("1 with 1", x.first(0, 1), 0);
+        x = Check.laid("p5,20,0;p9,40,0;p6,1,0;p5,2,0;");
         due("bad p", x.first(4, 0), BAD);
         due("bad p -1", x.first(-1, 0), BAD);
         due("bad what", x.first(0, 2), BAD);
@@ -816,6 +824,21 @@ public final class PromiseTest {
             due("thrown and taken up: lie", x.time(10, 1, 1), fits ? 1 : 2);
             due("thrown and taken up: might", x.time(10, 1, 2), fits ? 18 : 25);
         }
+        // z 0: DRAWs 0 and 20743: a plain 1 of person 0, then a plain 3 of person 1, which 0 takes up.
+        x = Check.laid("p3,5,1;p20,9,0;g0,20,0;g0,20,0;");
+        x.take(0);
+        x.take(1);
+        due("two reigns: out", x.time(0, 2, 0), 1);
+        due("two reigns: lie", x.time(0, 2, 1), 1);
+        due("two reigns: might", x.time(0, 2, 2), 7);
+        // z 4: DRAWs 21867, 22232, 19021: one is taken away, nothing is done, one is taken away.
+        x = Check.laid("p3,5,1;p20,9,0;g0,9,0;g0,9,0;g0,9,0;");
+        due("one reign", x.time(4, 1, 1), 2);
+        due("two reigns", x.time(4, 2, 1), 2);
+        due("three reigns", x.time(4, 3, 1), 1);
+        due("60 reigns", x.time(4, 60, 0) >= 0 ? 1 : 0, 1);
+        // z 9999: DRAW 25651, by 8 is 3206, modulo 4 is 2: nothing is done.
+        due("the last z", new GauntletHall().time(9999, 1, 2), 9 + 15 + 5);
     }
 
     private static void promise30Keep() {
