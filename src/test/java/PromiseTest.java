@@ -123,6 +123,11 @@ public final class PromiseTest {
         }
         dueFault("p3,3,1;g3,20,0;p3,3,1;g0,1,2;p0,0,0;", 22);
         dueFault("p3,3,1;g0,1,1;p3,3,1;", 7);
+        GauntletHall x = new GauntletHall();
+        Check.writeAll(x, "p1,1,0;p1,1,0;");
+        x.wipe();
+        Check.writeAll(x, "p1,1,0;p1,1,0");
+        due("what was wiped is not read", x.fault(), 7);
         dueFault("p1,1,0;".repeat(6), NONE);
         dueFault("p1,1,0;".repeat(7), 42);
         dueFault("p1,1,0;" + "g0,1,0;".repeat(8), NONE);
