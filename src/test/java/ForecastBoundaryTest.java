@@ -214,6 +214,14 @@ public final class ForecastBoundaryTest {
         due("in the 1st", Check.laid("p5,9,0;p8,7,1;").dare(0, 1), 8);
         due("not its own", Check.laid("p8,9,1;p8,7,1;").dare(0, 1), 8);
         due("one who stoops not", Check.laid("p5,9,0;p8,7,0;").dare(0, 1), NONE);
+        due("person 0, who stoops not", Check.laid("p5,9,0;p8,7,0;").dare(1, 0), NONE);
+        // What was taken up and is undone, or thrown anew, is not taken up.
+        GauntletHall hall = Check.laid("p5,9,0;p8,7,0;");
+        hall.hurl(1, 2, 5);
+        hall.wear(0, 0);
+        hall.undo();
+        hall.undo();
+        due("undone", hall.dare(1, 0), NONE);
         due("one ahead of it", Check.laid("p8,9,1;p8,7,1;p5,9,0;").dare(2, 1), NONE);
     }
 

@@ -321,6 +321,16 @@ public final class TextBoundaryTest {
         due("one person alone", hall.lay(), NO);
         due("no fault", hall.fault(), NONE);
         due("the hall stays", hall.count(0), 5);
+        // Nor as the rest of an item that is cut off.
+        String text = "p1,11,1;p2,22,1;g3,13,01;";
+        for (int length = 0; length <= text.length(); length++) {
+            hall = written(text);
+            hall.wipe();
+            Check.writeAll(hall, text.substring(0, length));
+            int start = length < 8 ? 0 : length < 16 ? 8 : length < 25 ? 16 : 25;
+            due("fault of the first " + length, hall.fault(), length == start ? NONE : start);
+            due("lay of the first " + length, hall.lay(), length == start && start >= 16 ? 2 : NO);
+        }
     }
 
     private static void laidAnew() {
