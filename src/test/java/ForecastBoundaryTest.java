@@ -223,6 +223,17 @@ public final class ForecastBoundaryTest {
         hall.undo();
         due("undone", hall.dare(1, 0), NONE);
         due("one ahead of it", Check.laid("p8,9,1;p8,7,1;p5,9,0;").dare(2, 1), NONE);
+        daredWithoutAFight();
+    }
+
+    /** Person 1 puts 0 out, ahead of 2 in the same reign: 2 takes up what 0 threw, and there is no FIGHT of the two. */
+    private static void daredWithoutAFight() {
+        GauntletHall hall = Check.laid("p1,3,0;p9,20,1;p5,1,1;g2,9,0;");
+        due("taken up without a fight", hall.dare(0, 2), 5);
+        due("thrown", hall.hurl(0, 0, 5), 1);
+        due("the fight of 0 and 1 alone", hall.pass(1), 1);
+        due("taken up", hall.glove(1, 3), 0);
+        due("the one who took it up stands", hall.person(2, 1), 1);
     }
 
     private static void daredFirstByKindThenSize() {

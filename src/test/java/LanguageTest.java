@@ -28,12 +28,20 @@ public final class LanguageTest {
         Set<String> open = new TreeSet<>();
         Set<String> closed = new TreeSet<>();
         for (Method method : GauntletHall.class.getDeclaredMethods()) {
+            if (!Modifier.isPrivate(method.getModifiers())) {
+                dueIntsAlone(method);
+            }
             (Modifier.isPrivate(method.getModifiers()) ? closed : open).add(method.getName()
                 + (Modifier.isPrivate(method.getModifiers()) ? "" : method.getParameterCount()));
         }
         CHECK.dueText("face", String.join(" ", open), "back0 behind2 count1 dare2 fault0 fight2 first2 fits2 forget0 "
             + "glove2 hands2 hurl3 keep0 kinds1 last0 lay0 lies1 likely3 pass1 person2 ring1 safe3 seen3 sizes2 stretch1 "
             + "take1 time3 undo0 wear2 wipe0 write1");
+        for (Class<?> inside : GauntletHall.class.getDeclaredClasses()) {
+            for (Method method : inside.getDeclaredMethods()) {
+                closed.add(method.getName());
+            }
+        }
         for (String name : closed) {
             CHECK.due("a private " + name + " beside a public one",
                 open.stream().filter(o -> o.substring(0, o.length() - 1).equals(name)).count(), 0);
@@ -49,6 +57,15 @@ public final class LanguageTest {
         CHECK.due("constructors", made.length, 1);
         CHECK.due("final and public", GauntletHall.class.getModifiers() & (Modifier.FINAL | Modifier.PUBLIC),
             Modifier.FINAL | Modifier.PUBLIC);
+    }
+
+    private static void dueIntsAlone(Method method) {
+        CHECK.dueText("what " + method.getName() + " answers", method.getReturnType().getName(), "int");
+        for (Class<?> type : method.getParameterTypes()) {
+            CHECK.dueText("a number of " + method.getName(), type.getName(), "int");
+        }
+        CHECK.due(method.getName() + " public, of an object", method.getModifiers() & (Modifier.PUBLIC | Modifier.STATIC),
+            Modifier.PUBLIC);
     }
 
     private static void classes() {

@@ -103,6 +103,26 @@ public final class SeenBoundaryTest {
         due("not kept, another one", hall.hands(1, 0), 20);
         due("seen behind back", hall.count(6), 2);
         due("forget", hall.forget(), 2);
+        seenOfAGloveThatIsThereAgain();
+    }
+
+    /** Set aside is not forgotten: KEPT with the glove, the hall has it again behind back(). */
+    private static void seenOfAGloveThatIsThereAgain() {
+        GauntletHall hall = Check.laid("p5,1,0;p9,9,0;g2,3,0;");
+        hall.hurl(0, 2, 7);
+        hall.seen(1, 1, 1);
+        hall.seen(0, 1, 0);
+        hall.keep();
+        due("both count", hall.hands(1, 1), 7);
+        hall.undo();
+        due("the other glove's alone", hall.hands(1, 0), 19);
+        due("the other glove's sizes", hall.sizes(0, 0), 19);
+        hall.back();
+        due("there again", hall.hands(1, 0), 1);
+        due("there again, the least", hall.hands(1, 1), 7);
+        due("there again, sizes", hall.sizes(1, 1), 9);
+        hall.take(1);
+        due("one that lies no more is there still", hall.hands(1, 1), 7);
     }
 
     private static void forgotten() {
